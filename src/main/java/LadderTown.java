@@ -837,14 +837,10 @@ public final class LadderTown {
             for (int i = 0; i < town.ladders; i++) tops[i] = town.top[i];
         }
 
-        private boolean standsHere(int ladder) {
-            return has(reaches[ladder], tops[ladder]);
-        }
-
         int standing() {
             int set = 0;
             for (int i = 0; i < town.ladders; i++) {
-                if (standsHere(i)) set |= 1 << i;
+                if (has(reaches[i], tops[i])) set |= 1 << i;
             }
             return set;
         }
@@ -963,7 +959,7 @@ public final class LadderTown {
         // is enough to know from which tops the goal is reached, and no top needs to be tried.
         private boolean lastMoveArrives(int ladder, int to) {
             int others = reaches[ladder] & ~(1 << tops[ladder]);
-            return (others & reachedWithout(ladder, to)) != 0;
+            return (others & reachedBy(to, ~(1 << ladder))) != 0;
         }
 
         private boolean moveArrives(int ladder, int to, int moves, int movable) {
@@ -1003,7 +999,7 @@ public final class LadderTown {
                     depth++;
                 } else if (code[i] == -'!') {
                     if (depth < 1) return 0;
-                    stack[depth - 1] = truth(stack[depth - 1] == 0);
+                    stack[depth - 1] = stack[depth - 1] == 0 ? 1 : 0;
                 } else {
                     if (depth < 2) return 0;
                     depth--;
@@ -1017,21 +1013,17 @@ public final class LadderTown {
             return place == 0 ? first : place == 1 ? second : third;
         }
 
-        private static int truth(boolean holds) {
-            return holds ? 1 : 0;
-        }
-
         private static int joined(int sign, int a, int b) {
             switch (sign) {
                 case '+': return a + b;
                 case '-': return a - b;
                 case '*': return a * b;
                 case '/': return b == 0 ? 0 : a / b;
-                case '<': return truth(a < b);
-                case '=': return truth(a == b);
-                case '>': return truth(a > b);
-                case '&': return truth(a != 0 && b != 0);
-                case '|': return truth(a != 0 || b != 0);
+                case '<': return a < b ? 1 : 0;
+                case '=': return a == b ? 1 : 0;
+                case '>': return a > b ? 1 : 0;
+                case '&': return a != 0 && b != 0 ? 1 : 0;
+                case '|': return a != 0 || b != 0 ? 1 : 0;
                 default: return 0;
             }
         }

@@ -204,6 +204,17 @@ public final class ModelTest {
         int n = had + text.length();
         due("trim " + n, x.trim(n), y.trim(n));
         due("text \"" + text + "\"", x.text(), y.text());
+        for (int i = 0; i < 2; i++) probeTexts();
+    }
+
+    private void probeTexts() {
+        int a = ledgeLot(), b = ledgeLot(), p = personLot(), l = ladderLot();
+        due("way " + a + " " + b + " 2", x.way(a, b, 2), y.way(a, b, 2));
+        due("way " + a + " " + a + " 2", x.way(a, a, 2), y.way(a, a, 2));
+        due("needs " + a + " " + b, x.needs(a, b), y.needs(a, b));
+        int foot = x.told(l, 2);
+        due("set foot", x.set(p, 0, foot), y.set(p, 0, foot));
+        due("may " + p + " " + l, x.may(p, l), y.may(p, l));
     }
 
     private static int four(String text, int at) {

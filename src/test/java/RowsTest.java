@@ -3,7 +3,9 @@ public final class RowsTest {
     public static void main(String[] args) {
         tell();
         check();
+        checkNightByNight();
         checkOfEmptyTowns();
+        checkByTextsOfTheImage();
         checkChangesNothing();
         keepAndBack();
         count();
@@ -51,6 +53,58 @@ public final class RowsTest {
         Due.is("43 thirty nights", x.check(30), 0);
         for (int i = 0; i < 60; i++) x.tell(i % 2 == 0 ? 2 : 3);
         Due.is("43 too many", x.check(29), 59);
+    }
+
+    private static void checkNightByNight() {
+        LadderTown x = Due.town(0, 10, 20, 30);
+        x.ladder(0, 30, 0, 1);
+        x.ladder(0, 1, 3, 0);
+        x.ladder(0, 10, 2, 3);
+        x.thieves(100);
+        x.keep();
+        // Ladder 0 leans at 2, at 3, at 1: from 2 and from 3 ladder 2 goes on.
+        Due.is("43 night by night", checked(x, 4, 2, 3, 2, 3, 2, 2, 2, 3), 0);
+        Due.is("43 the third night", checked(x, 4, 2, 3, 2, 3, 2, 3, 2, 3), 6);
+        x.back();
+        x.turns(2, 5);
+        x.cut(2, 20);
+        x.change(2, 0, 25);
+        x.ladder(0, 99, 3, 1);
+        x.keep();
+        Due.is("43 what stands", checked(x, 2, 2, 3, 2, 3), 0);
+    }
+
+    private static void checkByTextsOfTheImage() {
+        LadderTown x = Due.town(0, 10, 20);
+        x.ladder(0, 10, 0, 1);
+        x.thieves(100);
+        Due.text(x, "lean h/2");
+        x.keep();
+        Due.text(x, "lean h");
+        x.keep();
+        Due.text(x, "lean 0");
+        Due.is("43 only 1 is reached", checked(x, 1, 1, 2), 0);
+        Due.is("43 it stays at 1", checked(x, 2, 1, 2, 1, 2), 0);
+        x.back();
+        Due.is("45 the text that counted", x.why(0), 1);
+        Due.is("45 what it gives", x.told(0, 9), 2);
+        x.back();
+        Due.text(x, "lean 0");
+        x.back();
+        Due.is("45 what it gives", x.told(0, 9), 2);
+        x = Due.town(0, 10);
+        Due.text(x, "lean 5");
+        x.keep();
+        Due.text(x, "lean 6");
+        x.keep();
+        Due.text(x, "lean 8");
+        x.back();
+        Due.is("45 the text that counted", x.needs(0, 1), 6);
+        Due.text(x, "lean 7");
+        Due.is("45 another text of that number", x.needs(0, 1), 7);
+        x.keep();
+        x.back();
+        Due.is("45 another text of that number", x.needs(0, 1), 7);
     }
 
     private static void checkOfEmptyTowns() {

@@ -68,6 +68,12 @@ public final class TextsTest {
     private static void faults() {
         fault("", 0);
         fault("   ", 3);
+        fault(" ".repeat(96), 96);
+        fault("lean" + " ".repeat(92), 96);
+        fault(" ".repeat(92) + "lean", 96);
+        fault(" ".repeat(95) + "h", 95);
+        fault("lean " + "h+".repeat(45) + "(", 96);
+        fault("lean" + "9".repeat(92), 4);
         fault("lean", 4);
         fault("lean  ", 6);
         fault("lea", 0);
@@ -77,6 +83,13 @@ public final class TextsTest {
         fault("5 h", 0);
         fault("(lean h)", 0);
         fault("lean5", 4);
+        fault("leanz5", 0);
+        fault("leana", 0);
+        fault("lean h0", 6);
+        fault("lean h9", 6);
+        fault("lean`h", 4);
+        fault("lean{h", 4);
+        fault("lean h/h:", 8);
         fault("lean 5h", 6);
         fault("lean h5", 6);
         fault("lean h 5", 7);
@@ -169,6 +182,17 @@ public final class TextsTest {
         gives("9-4-3", 2);
         gives("100/7/2", 7);
         gives("7/2*2", 6);
+        gives("7*3/2", 10);
+        gives("9-3+1", 7);
+        gives("9+3-1-2", 9);
+        gives("8-6/2-1", 4);
+        gives("8-2*3", 2);
+        gives("0|1+1", 1);
+        gives("3&2-2", 0);
+        gives("1+0&0+1", 1);
+        gives("2*3>5&1", 1);
+        gives("3=1+2", 1);
+        gives("4>3-2", 1);
         gives("(0-7)/2", -3);
         gives("5/0", 0);
         gives("0/0", 0);

@@ -81,6 +81,11 @@ public final class WaysTest {
         x.ladder(0, 99, 1, 2);
         Due.is("23 itself", x.needed(3, 3), 0);
         Due.is("23 two beside one another", x.needed(0, 1), 0);
+        LadderTown y = Due.town(0, 10, 20);
+        y.ladder(0, 10, 0, 1);
+        y.ladder(0, 10, 1, 2);
+        Due.is("23 the first, too", y.needed(0, 2), 3);
+        Due.is("23 the first alone", y.needed(1, 0), 1);
         Due.is("23 one alone", x.needed(2, 0), 4);
         Due.is("23 none", x.needed(0, 3), Due.NONE);
         x.cut(0, 9);
@@ -104,11 +109,23 @@ public final class WaysTest {
         Due.is("24 where two are", x.meeting(), 2);
         x.person(3, 0);
         Due.is("24 one is apart", x.meeting(), Due.NONE);
+        x = Due.town(0, 10, 20, 30);
+        for (int i = 0; i < 3; i++) x.ladder(0, 10, i, i + 1);
+        x.person(0, 0);
+        x.person(2, 0);
+        x.person(3, 0);
+        Due.is("24 between them", x.meeting(), 2);
+        x.cut(2, 9);
+        Due.is("24 the last is apart", x.meeting(), Due.NONE);
     }
 
     private static void above() {
         LadderTown x = new LadderTown();
         Due.is("25 nobody", x.above(), 0);
+        x = Due.town(0, 10);
+        Due.is("25 nobody on ledges", x.above(), 0);
+        x.person(1, 0);
+        Due.is("25 the first", x.above(), 1);
         x = Due.town(20, 0, 10, 30);
         x.person(0, 0);
         x.person(1, 0);
@@ -177,6 +194,14 @@ public final class WaysTest {
         y.person(0, 0);
         Due.is("26 the last one first", y.fewest(0, 3), 1);
         Due.is("26 down and moved", y.fewest(0, 2), 1);
+        // By two, the first of them to ledge 0, which is the highest.
+        LadderTown w = Due.town(50, 0, 10, 60, 20);
+        w.ladder(1, 47, 1, 2);
+        w.ladder(1, 7, 0, 4);
+        w.person(1, 0);
+        Due.is("26 by two", w.fewest(0, 3), 2);
+        Due.is("26 nothing moved", w.told(0, 3), 2);
+        Due.is("26 as before", w.fewest(0, 3), 2);
     }
 
     private static void help() {
@@ -203,5 +228,10 @@ public final class WaysTest {
         Due.is("27 how many", x.help(2), 3);
         x.cut(1, 1);
         for (int what = 0; what < 3; what++) Due.is("27 none is more", x.help(what), Due.NONE);
+        x = Due.town(20, 0, 10);
+        x.ladder(0, 99, 1, 2);
+        Due.is("27 ledge 0 itself is the top", x.help(1), 0);
+        Due.is("27 how many", x.help(2), 2);
+        Due.is("27 one ledge without ladders", Due.town(5).help(0), Due.NONE);
     }
 }
