@@ -927,11 +927,14 @@ public final class LadderTown {
             return sum;
         }
 
+        // A sheet may have places for which there is no ledge: to those there is no way, but they count too.
         int differenceFrom(int ledge, Sheet sheet) {
             measureFrom(ledge);
             int sum = 0;
-            for (int i = 0; i < town.ledges && i < sheet.size; i++) {
-                if (sheet.places[i] != NONE) sum += Math.abs(minutesTo(i) - sheet.places[i]);
+            for (int i = 0; i < sheet.size; i++) {
+                if (sheet.places[i] == NONE) continue;
+                int minutes = i < town.ledges ? minutesTo(i) : NO_WAY_MINUTES;
+                sum += Math.abs(minutes - sheet.places[i]);
             }
             return sum;
         }

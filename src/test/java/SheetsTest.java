@@ -132,7 +132,23 @@ public final class SheetsTest {
         x.sheet(1, 0, 1);
         Due.is("36 one place", x.nearest(1, 1), 0);
         x.sheet(1, 0, 24);
-        Due.is("36 only places of ledges", x.nearest(1, 1), 1002);
+        Due.is("36 places without ledges count too", x.nearest(1, 1), 1002 + 21 * 999);
+        Due.is("36 the ledge all the same", x.nearest(1, 0), 0);
+        x.sheet(1, 1, 24);
+        for (int i = 3; i < 24; i++) x.mark(1, i, 999);
+        Due.is("36 beyond the ledges there is no way", x.nearest(1, 1), 1002);
+        x.mark(1, 3, 1000);
+        x.mark(1, 23, -99999);
+        Due.is("36 beyond the ledges signs are left out", x.nearest(1, 1), 1002 + 1 + 100998);
+        for (int i = 3; i < 24; i++) x.mark(1, i, Due.NONE);
+        Due.is("36 beyond the ledges no number counts nothing", x.nearest(1, 1), 1002);
+        x.mark(1, 5, 0);
+        Due.is("36 one place beyond the ledges", x.nearest(1, 1), 1002 + 999);
+        x.ledge(40, 0);
+        x.ledge(50, 0);
+        x.ledge(60, 0);
+        Due.is("36 a ledge that comes later", x.nearest(1, 1), 1002 + 999);
+        Due.is("36 a ledge that comes later", x.nearest(1, 0), 0);
     }
 
     private static void copy() {

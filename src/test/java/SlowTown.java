@@ -680,9 +680,9 @@ final class SlowTown {
         int least = NONE;
         for (int i = 0; i < s.ledges.size(); i++) {
             int sum = 0;
-            for (int k = 0; k < s.ledges.size(); k++) {
-                if (k >= places(sheet) || at(sheet, k) == null) continue;
-                int[] way = s.best(i, k, -1);
+            for (int k = 0; k < places(sheet); k++) {
+                if (at(sheet, k) == null) continue;
+                int[] way = k < s.ledges.size() ? s.best(i, k, -1) : null;
                 int differs = (way == null ? 999 : way[0]) - at(sheet, k);
                 sum += differs < 0 ? -differs : differs;
             }
