@@ -6,14 +6,33 @@ final class Due {
     static final int MAX = Integer.MAX_VALUE, MIN = Integer.MIN_VALUE;
 
     private static int wrong = 0;
+    private static int asked = 0;
+    private static String sentence = "";
 
     private Due() {
     }
 
     static void is(String what, int got, int want) {
+        asked++;
         if (got == want) return;
         wrong++;
-        System.out.println(what + ": answered " + got + ", due is " + want);
+        System.out.println(sentence + what + ": answered " + got + ", due is " + want);
+    }
+
+    static void holds(String what, boolean so) {
+        asked++;
+        if (so) return;
+        wrong++;
+        System.out.println(sentence + what);
+    }
+
+    static int asked() {
+        return asked;
+    }
+
+    /** What is asked from now on is told together with this. */
+    static void under(String words) {
+        sentence = words.isEmpty() ? "" : words + "\n    ";
     }
 
     /** Ends the test: with exit code 1 if an answer was not as due. */
