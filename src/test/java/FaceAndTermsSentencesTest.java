@@ -1,3 +1,5 @@
+import java.util.function.ToIntFunction;
+
 /** What stands ahead of the numbered terms: the number of calls, the face, a new object, what holds for all calls. */
 public final class FaceAndTermsSentencesTest {
     public static void main(String[] args) {
@@ -6,10 +8,15 @@ public final class FaceAndTermsSentencesTest {
         Sentence.holds("The public face", "BAD = -1000000001, NO = -1000000002, FULL = -1000000003, NONE = -1000000005, "
             + "NOTHING = -1000000011, KIND = -1000000012, INDEX = -1000000013, SIZE = -1000000014",
             FaceAndTermsSentencesTest::constants);
-        Sentence.holds("Promise 1", "`LadderTown()`: As told; no LEDGES.", FaceAndTermsSentencesTest::newObject);
+        Sentence.holds("Promise 1", "As told; no LEDGES.", FaceAndTermsSentencesTest::newObject);
         Sentence.holds("Promise 1", "no LEDGES", FaceAndTermsSentencesTest::newObjectsShareNothing);
         Sentence.holds("Terms", "All numbers are whole; / cuts towards 0.", FaceAndTermsSentencesTest::cutTowards0);
+        Sentence.holds("Terms", "A call that is refused answers one of BAD, NO, FULL, or a FINDING",
+            FaceAndTermsSentencesTest::refusedByEach);
+        Sentence.holds("Terms", "of several the one that stands first with it", FaceAndTermsSentencesTest::firstOfSeveral);
         Sentence.holds("Terms", "and changes nothing", FaceAndTermsSentencesTest::manyRefusedCallsChangeNothing);
+        Sentence.holds("Terms", "(but the tape and the numbers that wait, where told)",
+            FaceAndTermsSentencesTest::tapeAndNumbersWhereTold);
         Sentence.holds("Terms", "NONE: there is none.", FaceAndTermsSentencesTest::noneChangesNothing);
         Sentence.holds("Terms", "Sets are told as bits (bit k for number k).", FaceAndTermsSentencesTest::bits);
         Sentence.end("FaceAndTermsSentencesTest");
@@ -82,6 +89,71 @@ public final class FaceAndTermsSentencesTest {
         Due.is("the rest of -17 by -5", x.rest(0, -5), -2);
         x.lay(0, 3, 17);
         Due.is("the rest of 17 by -5", x.rest(0, -5), 2);
+    }
+
+    private static void refused(String what, ToIntFunction<LadderTown> call, int due) {
+        Twins.refused(what, Towns::rich, call, due);
+    }
+
+    private static void refusedByEach() {
+        refused("BAD", x -> x.ledge(100, 0), Due.BAD);
+        refused("NO", x -> x.move(0, 3, 1), Due.NO);
+        Twins.refused("FULL", Towns::full, x -> x.tell(0), Due.FULL);
+        refused("NOTHING", x -> x.pour(3), Due.NOTHING);
+        refused("KIND", x -> x.as(0, 5), Due.KIND);
+        refused("INDEX", x -> x.mark(0, 3, 0), Due.INDEX);
+        refused("SIZE", x -> x.sheet(0, 0, -1), Due.SIZE);
+    }
+
+    private static void firstOfSeveral() {
+        Twins.refused("ledge: BAD; FULL", Towns::full, x -> x.ledge(-1, 0), Due.BAD);
+        Twins.refused("ladder: BAD; FULL", Towns::full, x -> x.ladder(0, 100, 0, 1), Due.BAD);
+        Twins.refused("person: BAD; FULL", Towns::full, x -> x.person(0, -1), Due.BAD);
+        refused("as: BAD; KIND", x -> x.as(0, 6), Due.BAD);
+        refused("move: BAD; NO", x -> x.move(3, 0, 5), Due.BAD);
+        refused("climb: BAD; NO", x -> x.climb(3, 5), Due.BAD);
+        refused("way: BAD; NONE", x -> x.way(0, 4, 3), Due.BAD);
+        refused("needed: BAD; NONE", x -> x.needed(4, 5), Due.BAD);
+        refused("fewest: BAD; NONE", x -> x.fewest(4, 4), Due.BAD);
+        Twins.refused("help: BAD; NONE", LadderTown::new, x -> x.help(3), Due.BAD);
+        Twins.refused("why: BAD; NONE", LadderTown::new, x -> x.why(3), Due.BAD);
+        refused("sheet: BAD; SIZE", x -> x.sheet(4, 0, -1), Due.BAD);
+        refused("mark: BAD; NOTHING; ..", x -> x.mark(4, 9, Due.NONE), Due.BAD);
+        refused("mark: NOTHING; INDEX; ..", x -> x.mark(3, 9, Due.NONE), Due.NOTHING);
+        refused("mark: INDEX; KIND; ..", x -> x.mark(0, 9, Due.NONE), Due.INDEX);
+        refused("mark: INDEX; ..; BAD", x -> x.mark(1, 9, 100000), Due.INDEX);
+        Twins.refused("nearest: BAD; NOTHING; NONE", LadderTown::new, x -> x.nearest(0, 2), Due.BAD);
+        Twins.refused("nearest: NOTHING; NONE", LadderTown::new, x -> x.nearest(0, 0), Due.NOTHING);
+        refused("copy: BAD; NOTHING; ..", x -> x.copy(3, 9, 4, 9, 9), Due.BAD);
+        refused("copy: NOTHING; ..", x -> x.copy(3, 9, 1, 9, 9), Due.NOTHING);
+        refused("copy: KIND; INDEX", x -> x.copy(0, 9, 1, 9, 9), Due.KIND);
+        refused("lay: BAD; NOTHING", x -> x.lay(5, 2, 3), Due.BAD);
+        refused("ask: BAD; NOTHING; ..", x -> x.ask(3, 6), Due.BAD);
+        refused("item: NOTHING; ..", x -> x.item(3, 9), Due.NOTHING);
+        refused("item: KIND; INDEX", x -> x.item(2, 9), Due.KIND);
+        refused("rest: BAD; ..; NO", x -> x.rest(5, 0), Due.BAD);
+        refused("rest: NOTHING; ..; NO", x -> x.rest(3, 0), Due.NOTHING);
+        refused("rest: KIND; NO", x -> x.rest(0, 0), Due.KIND);
+        Due.is("check: BAD; NO", new LadderTown().check(0), Due.BAD);
+    }
+
+    private static void tapeAndNumbersWhereTold() {
+        LadderTown x = Towns.rich();
+        x.trim(4);
+        Due.is("a fault", x.text(), -104);
+        Due.is("uses up the tape", x.count(8), 0);
+        Due.is("but no numbers", x.count(7), 2);
+        LadderTown y = Towns.rich();
+        Due.is("a bad check", y.check(31), Due.BAD);
+        Due.is("leaves no numbers", y.count(7), 0);
+        Due.is("but the tape", y.count(8), 10);
+        LadderTown z = Towns.full();
+        Due.is("feed is full", z.feed(1, 1, 1), Due.FULL);
+        Due.is("trim is bad", z.trim(97), Due.BAD);
+        Due.is("the tape stays", z.count(8), 96);
+        Due.is("tell is full", z.tell(1), Due.FULL);
+        Due.is("the numbers stay", z.count(7), 60);
+        Due.is("and are as they were", z.check(30), 0);
     }
 
     private static void manyRefusedCallsChangeNothing() {

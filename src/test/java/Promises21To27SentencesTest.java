@@ -17,6 +17,7 @@ public final class Promises21To27SentencesTest {
         Sentence.holds("Promise 22", "BAD.", Promises21To27SentencesTest::reachedRefused);
         Sentence.holds("Promise 23", "NEEDED, as a set.", Promises21To27SentencesTest::needed);
         Sentence.holds("Promise 23", "BAD; NONE: there is no WAY.", Promises21To27SentencesTest::neededRefused);
+        Sentence.holds("Promise 24", "MEETING.", Promises21To27SentencesTest::meeting);
         Sentence.holds("Promise 24", "NONE: there is none, or nobody is there.", Promises21To27SentencesTest::meetingNone);
         Sentence.holds("Promise 25", "ABOVE, as a set.", Promises21To27SentencesTest::above);
         Sentence.holds("Promise 26", "FEWEST MOVES.", Promises21To27SentencesTest::fewest);
@@ -41,6 +42,7 @@ public final class Promises21To27SentencesTest {
         rich("either takes as long", x -> x.way(0, 2, 0), 11);
         rich("down and up", x -> x.way(3, 0, 0), 16);
         rich("itself", x -> x.way(4, 4, 0), 0);
+        both("with as many as there may be", Towns::full, x -> x.way(3, 8, 0), 15);
         LadderTown x = Due.town(0, 50, 99);
         x.ladder(1, 99, 0, 2);
         Due.is("a rope alone", x.way(0, 2, 0), 40);
@@ -86,7 +88,8 @@ public final class Promises21To27SentencesTest {
             int from = l;
             rich("from " + l, x -> x.reached(from), l == 4 ? 16 : 15);
         }
-        both("all but the last", Towns::full, x -> x.reached(9), 512);
+        both("the last of ten alone", Towns::full, x -> x.reached(9), 512);
+        both("with as many as there may be", Towns::full, x -> x.reached(5), 0x1f8);
     }
 
     private static void reachedRefused() {
@@ -98,6 +101,7 @@ public final class Promises21To27SentencesTest {
         rich("in a ring", x -> x.needed(0, 2), 0);
         rich("out of it", x -> x.needed(0, 3), 4);
         rich("itself", x -> x.needed(4, 4), 0);
+        both("with as many as there may be", Towns::full, x -> x.needed(8, 3), 0xf8);
     }
 
     private static void neededRefused() {
@@ -109,11 +113,32 @@ public final class Promises21To27SentencesTest {
         rich("no way back", x -> x.needed(4, 0), Due.NONE);
     }
 
+    private static void meeting() {
+        // In the rich town people are on 0, 1, 1, 3: 0 to 1 takes 3, 1 to 3 takes 13.
+        rich("where two are", LadderTown::meeting, 1);
+        both("of two the least", () -> people(2, 0), LadderTown::meeting, 0);
+        both("one alone, where it is", () -> people(3), LadderTown::meeting, 3);
+        both("the last ledge", () -> people(3, 3, 0), LadderTown::meeting, 3);
+        both("the last of ten, all six are there", Promises21To27SentencesTest::allOnTheLast, LadderTown::meeting, 9);
+    }
+
+    private static LadderTown allOnTheLast() {
+        LadderTown x = Towns.full();
+        for (int i = 0; i < 6; i++) x.set(i, 0, 9);
+        return x;
+    }
+
+    private static LadderTown people(int... ledges) {
+        LadderTown x = Due.town(0, 10, 20, 30);
+        for (int i = 0; i < 3; i++) x.ladder(0, 10, i, i + 1);
+        for (int ledge : ledges) x.person(ledge, 0);
+        return x;
+    }
+
     private static void meetingNone() {
         both("no ledges", LadderTown::new, LadderTown::meeting, Due.NONE);
         both("nobody", () -> Due.town(0, 10), LadderTown::meeting, Due.NONE);
         both("no way for all", Promises21To27SentencesTest::apart, LadderTown::meeting, Due.NONE);
-        rich("there is one", LadderTown::meeting, 1);
     }
 
     private static LadderTown apart() {
@@ -131,6 +156,7 @@ public final class Promises21To27SentencesTest {
         both("nobody", () -> Due.town(0, 10), LadderTown::above, 0);
         rich("none is left", LadderTown::above, 0);
         both("all six", Promises21To27SentencesTest::allAbove, LadderTown::above, 63);
+        both("the only one", Promises21To27SentencesTest::oneAbove, LadderTown::above, 1);
     }
 
     private static LadderTown allAbove() {
@@ -139,11 +165,19 @@ public final class Promises21To27SentencesTest {
         return x;
     }
 
+    private static LadderTown oneAbove() {
+        LadderTown x = Due.town(0, 10);
+        x.person(1, 0);
+        return x;
+    }
+
     private static void fewest() {
         rich("there", x -> x.fewest(0, 0), 0);
         rich("by ways", x -> x.fewest(0, 3), 0);
         both("by one", Promises21To27SentencesTest::ropes, x -> x.fewest(0, 1), 1);
         both("by two", Promises21To27SentencesTest::ropes, x -> x.fewest(0, 2), 2);
+        both("by ways, with as many as there may be", Towns::full, x -> x.fewest(5, 8), 0);
+        both("by the last ladder", Promises21To27SentencesTest::lastLadderFirst, x -> x.fewest(5, 9), 1);
     }
 
     private static LadderTown ropes() {
@@ -153,11 +187,20 @@ public final class Promises21To27SentencesTest {
         return x;
     }
 
+    /** Ladder 7 could lean at ledge 9. */
+    private static LadderTown lastLadderFirst() {
+        LadderTown x = Towns.full();
+        x.turns(7, 1);
+        x.cut(7, 99);
+        return x;
+    }
+
     private static void fewestRefused() {
         for (int p : NO_PERSON) rich("person " + p, x -> x.fewest(p, 0), Due.BAD);
         for (int l : NO_LEDGE) rich("ledge " + l, x -> x.fewest(0, l), Due.BAD);
         rich("not by 2", x -> x.fewest(0, 4), Due.NONE);
         both("by 3", Promises21To27SentencesTest::ropes, x -> x.fewest(0, 3), Due.NONE);
+        both("with as many as there may be", Towns::full, x -> x.fewest(5, 9), Due.NONE);
     }
 
     private static LadderTown helped() {
@@ -173,6 +216,20 @@ public final class Promises21To27SentencesTest {
             int what = w;
             both("what " + w, Promises21To27SentencesTest::helped, x -> x.help(what), due[w]);
         }
+        int[] last = {7, 9, 2};
+        for (int w = 0; w < 3; w++) {
+            int what = w;
+            both("the last ladder, the last ledge, " + w, Promises21To27SentencesTest::helpedByTheLast, x -> x.help(what),
+                last[w]);
+        }
+    }
+
+    private static LadderTown helpedByTheLast() {
+        LadderTown x = Due.town(0, 0, 0, 0, 0, 0, 0, 0, 0, 50);
+        for (int i = 0; i < 7; i++) x.ladder(0, 99, i + 1, 9);
+        x.ladder(0, 50, 0, 1);
+        for (int i = 0; i < 7; i++) x.cut(i, 49);
+        return x;
     }
 
     private static void helpRefused() {

@@ -159,6 +159,12 @@ public final class Promises28To32SentencesTest {
             Twins.refused("key " + k, Towns::rich, x -> x.why(key), due[k]);
         }
         Twins.refused("the fourteenth", Towns::full, x -> x.why(0), 13);
+        String[] texts = {"lean h", "move s", "toll m"};
+        for (int k = 0; k < 3; k++) {
+            LadderTown x = new LadderTown();
+            Due.text(x, texts[k]);
+            for (int other = 0; other < 3; other++) Due.is(texts[k] + " is text 0", x.why(other), k == other ? 0 : Due.NONE);
+        }
     }
 
     private static void whyRefused() {

@@ -32,10 +32,13 @@ public final class Promises2To12SentencesTest {
         Sentence.holds("Promise 7", "One more LADDER (whether it REACHES its TOP or not): its number.",
             Promises2To12SentencesTest::oneMoreLadder);
         Sentence.holds("Promise 7", "BAD: also FOOT and TOP are one; FULL.", Promises2To12SentencesTest::ladderRefused);
+        Sentence.holds("Promise 8", "what 0 KIND, 1 LENGTH, 2 FOOT, 3 TOP, 4 REACH", Promises2To12SentencesTest::toldPlainly);
         Sentence.holds("Promise 8", "5 MINUTES (of one that does not STAND, too)", Promises2To12SentencesTest::minutesTold);
+        Sentence.holds("Promise 8", "6 whether it STANDS", Promises2To12SentencesTest::standsTold);
         Sentence.holds("Promise 8", "7 whether it was MOVED (1, 0), 8 WORTH, 9 all LEDGES that it REACHES.",
             Promises2To12SentencesTest::told);
         Sentence.holds("Promise 8", "BAD.", Promises2To12SentencesTest::toldRefused);
+        Sentence.holds("Promise 9", "A LADDER as one of a KIND: LENGTH.", Promises2To12SentencesTest::as);
         Sentence.holds("Promise 9", "BAD: ladder, kind; KIND: it is not of that KIND, nor of one under it.",
             Promises2To12SentencesTest::asRefused);
         Sentence.holds("Promise 10", "A LADDER is of another KIND from now on: what it was.",
@@ -193,6 +196,25 @@ public final class Promises2To12SentencesTest {
         Twins.refused("foot and top are one, ahead of full", Towns::full, x -> x.ladder(0, 5, 3, 3), Due.BAD);
     }
 
+    private static void toldPlainly() {
+        LadderTown x = Due.town(0, 10, 20, 30, 40, 50, 60, 70, 80, 90);
+        for (int i = 0; i < 8; i++) {
+            x.ladder(i % 6, i == 7 ? 99 : i + 1, 9 - i, i == 0 ? 0 : 9);
+            Due.is("kind of " + i, x.told(i, 0), i % 6);
+            Due.is("length of " + i, x.told(i, 1), i == 7 ? 99 : i + 1);
+            Due.is("foot of " + i, x.told(i, 2), 9 - i);
+            Due.is("top of " + i, x.told(i, 3), i == 0 ? 0 : 9);
+        }
+        int[] reach = {1, 5, 3, 8, 3, 3, 7, 102};
+        for (int i = 0; i < 8; i++) Due.is("reach of " + i, x.told(i, 4), reach[i]);
+    }
+
+    private static void standsTold() {
+        LadderTown x = Towns.rich();
+        int[] stands = {1, 1, 1, 1, 0};
+        for (int i = 0; i < 5; i++) Due.is("ladder " + i, x.told(i, 6), stands[i]);
+    }
+
     private static void minutesTold() {
         LadderTown x = Due.town(0, 50, 99);
         x.ladder(0, 1, 0, 1);
@@ -217,6 +239,12 @@ public final class Promises2To12SentencesTest {
         for (int l : NO_LADDER) bad("ladder " + l, x -> x.told(l, 0));
         int[] whats = {-1, 10, Due.MAX, Due.MIN};
         for (int w : whats) bad("what " + w, x -> x.told(0, w));
+    }
+
+    private static void as() {
+        int[][] of = {{0, 0, 13}, {1, 0, 18}, {1, 1, 18}, {2, 2, 24}, {2, 0, 24}, {3, 3, 30}, {3, 1, 30}, {3, 0, 30},
+            {4, 5, 40}, {4, 0, 40}};
+        for (int[] o : of) Twins.refused(o[0] + " as " + o[1], Towns::rich, x -> x.as(o[0], o[1]), o[2]);
     }
 
     private static void asRefused() {

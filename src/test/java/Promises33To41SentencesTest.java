@@ -17,6 +17,7 @@ public final class Promises33To41SentencesTest {
         Sentence.holds("Promise 33", "A SHEET becomes a row of n places of a sort, all 0", Promises33To41SentencesTest::sheet);
         Sentence.holds("Promise 33", "(sort -1: MISSING, n any): n (0).", Promises33To41SentencesTest::sheetMissing);
         Sentence.holds("Promise 33", "BAD: sheet, sort, n above 24; SIZE.", Promises33To41SentencesTest::sheetRefused);
+        Sentence.holds("Promise 34", "A place of a SHEET becomes v", Promises33To41SentencesTest::mark);
         Sentence.holds("Promise 34", "(of shorts its lowest 16 bits", Promises33To41SentencesTest::markShorts);
         Sentence.holds("Promise 34", "of floats v, -99999 .. 99999; NONE: NO NUMBER): 1.",
             Promises33To41SentencesTest::markFloats);
@@ -24,6 +25,8 @@ public final class Promises33To41SentencesTest {
             Promises33To41SentencesTest::markRefused);
         Sentence.holds("Promise 37", "So many places of a SHEET come to another one (or the same), as they were: many.",
             Promises33To41SentencesTest::copy);
+        Sentence.holds("Promise 37", "(From a SHEET, its place, to a SHEET, its place.)",
+            Promises33To41SentencesTest::copyFromTo);
         Sentence.holds("Promise 37", "BAD; NOTHING; KIND: they are not of one sort; INDEX.",
             Promises33To41SentencesTest::copyRefused);
     }
@@ -116,6 +119,19 @@ public final class Promises33To41SentencesTest {
         }
     }
 
+    private static void mark() {
+        LadderTown x = new LadderTown();
+        for (int sheet = 0; sheet < 4; sheet++) x.sheet(sheet, sheet % 2, 24);
+        for (int sheet = 0; sheet < 4; sheet++) {
+            for (int p = 0; p < 24; p += 23) Due.is("sheet " + sheet, x.mark(sheet, p, 100 * sheet + p), 1);
+        }
+        for (int sheet = 0; sheet < 4; sheet++) {
+            Due.is("its first place", place(x, sheet, 0), 100 * sheet);
+            Due.is("its last place", place(x, sheet, 23), 100 * sheet + 23);
+            Due.is("another place", place(x, sheet, 22), 0);
+        }
+    }
+
     private static void markShorts() {
         int[][] shorts = {{0, 0}, {32767, 32767}, {32768, -32768}, {65535, -1}, {65536, 0}, {-1, -1}, {-32768, -32768},
             {-32769, 32767}, {Due.MAX, -1}, {Due.MIN, 0}, {100000, 100000 - 131072}, {Due.BAD, (short) Due.BAD}};
@@ -171,6 +187,19 @@ public final class Promises33To41SentencesTest {
         refused("none, behind the ends", y -> y.copy(0, 3, 0, 3, 0), 0);
         refused("none, to one without places", y -> y.copy(1, 4, 2, 0, 0), 0);
         refused("none, between", y -> y.copy(0, 1, 0, 2, 0), 0);
+    }
+
+    private static void copyFromTo() {
+        LadderTown x = new LadderTown();
+        x.sheet(1, 0, 4);
+        x.sheet(3, 0, 4);
+        for (int i = 0; i < 4; i++) x.mark(1, i, i + 1);
+        Due.is("of sheet 1, from 0, to sheet 3, from 2", x.copy(1, 0, 3, 2, 2), 2);
+        row("the one it came from", x, 1, 1, 2, 3, 4);
+        row("the one it came to", x, 3, 0, 0, 1, 2);
+        Due.is("of sheet 3, from 1, to sheet 1, from 0", x.copy(3, 1, 1, 0, 3), 3);
+        row("the one it came from", x, 3, 0, 0, 1, 2);
+        row("the one it came to", x, 1, 0, 1, 2, 4);
     }
 
     private static void copyRefused() {
@@ -255,6 +284,15 @@ public final class Promises33To41SentencesTest {
         refused("together", x -> x.nearest(0, 1), 2 + 7 + 292);
         refused("no places: the least ledge", x -> x.nearest(2, 0), 0);
         refused("no places: no differences", x -> x.nearest(2, 1), 0);
+        LadderTown x = Due.town(0, 10, 20, 30, 40, 50, 60, 70, 80, 90);
+        x.sheet(0, 0, 24);
+        x.mark(0, 9, 999);
+        Due.is("ten ledges, 24 places: the least of those from which nine are 999 away", x.nearest(0, 0), 0);
+        Due.is("together", x.nearest(0, 1), 8 * 999 + 14 * 999);
+        for (int i = 0; i < 9; i++) x.mark(0, i, 999);
+        x.mark(0, 9, 0);
+        Due.is("the last of ten", x.nearest(0, 0), 9);
+        Due.is("together", x.nearest(0, 1), 14 * 999);
     }
 
     private static void nearestRefused() {

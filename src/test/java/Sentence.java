@@ -28,7 +28,8 @@ final class Sentence {
         Due.end(test + ", " + held + " sentences" + (DOCUMENT.isEmpty() ? " (their words unseen: no " + DOC + ")" : ""));
     }
 
-    private static String part(String where) {
+    /** What the document says there, in one line; nothing without the document. */
+    static String part(String where) {
         String from = where.matches("Terms \\d") ? "======== " + where.substring(6) + " "
             : where.startsWith("Promise ") ? "## " + where + ": " : "## " + where + " ";
         int start = DOCUMENT.indexOf(from);

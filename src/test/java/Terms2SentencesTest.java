@@ -208,6 +208,12 @@ public final class Terms2SentencesTest {
         Due.is("by one", x.fewest(0, 1), 1);
         Due.is("by two", x.fewest(0, 2), 2);
         Due.is("by three: none", x.fewest(0, 3), Due.NONE);
+        // The first of two is leant at ledge 0, from which the second one goes on.
+        LadderTown y = Due.town(50, 0, 10, 60, 20);
+        y.ladder(1, 47, 1, 2);
+        y.ladder(1, 7, 0, 4);
+        y.person(1, 0);
+        Due.is("by two, over ledge 0", y.fewest(0, 3), 2);
         x.move(0, 0, 1);
         Due.is("by a way as it stands", x.fewest(0, 1), 0);
         Due.is("one was moved, one is left to move", x.fewest(0, 2), 1);

@@ -121,6 +121,13 @@ public final class Terms4SentencesTest {
         Due.is("full", x.text(), Due.FULL);
         Due.is("used up", x.count(8), 0);
         Due.is("from its first byte on", x.feed(0, 0, 0), 12);
+        LadderTown y = Due.town(0);
+        String[] cut = {"toll ((((((((1", "toll !!!!!!!!", "toll 1+2*3<(4-", "toll 1", "toll 9 9"};
+        for (int i = 0; i < cut.length; i++) {
+            Due.is(cut[i], Due.text(y, cut[i]) < 0 ? 1 : 0, i == 3 ? 0 : 1);
+            Due.text(y, "toll ((((((((!!!!!!!!0))))))))+7*3");
+            Due.is("nothing is left behind " + cut[i], y.way(0, 0, 2), 21);
+        }
     }
 
     private static void keys() {
@@ -131,6 +138,7 @@ public final class Terms4SentencesTest {
             Due.is("its key", x.textTold(i, 0), i);
             fault(keys[i], 4);
             fault(keys[i].substring(0, 3), 0);
+            fault("b" + keys[i].substring(1) + " 1", 0);
             fault(keys[i] + "s 1", 0);
             fault(keys[i].toUpperCase() + " 1", 0);
             fault(keys[i] + " " + keys[i] + " 1", 5);
@@ -198,7 +206,8 @@ public final class Terms4SentencesTest {
     private static void terms() {
         gives("100/7/2", 7);
         gives("7/2*2", 6);
-        gives("7*2/2", 7);
+        gives("7*3/2", 10);
+        gives("7/3*3", 6);
         gives("2*!0*3", 6);
         gives("!2*3", 0);
         fault("toll *1", 5);
@@ -300,6 +309,11 @@ public final class Terms4SentencesTest {
 
     private static void wordsAsLongAsTheyGo() {
         fault("leanh", 0);
+        fault("leana 1", 0);
+        fault("leanz 1", 0);
+        fault("lean hz", 5);
+        fault("lean ha", 5);
+        fault("lean z1", 5);
         fault("leanlean 1", 0);
         fault("leant 1", 0);
         fault("lean hpp", 5);

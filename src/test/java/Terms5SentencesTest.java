@@ -314,6 +314,10 @@ public final class Terms5SentencesTest {
         x.back();
         Due.is("the image is as it was", x.told(0, 3), 1);
         Due.is("its z", x.count(9), 1);
+        Due.text(x, "lean 30-h+2*p");
+        x.keep();
+        Due.text(x, "lean 31");
+        Due.is("by the image's texts", checked(x, 2, 1, 2, 1, 2), 0);
     }
 
     private static void standAndReached() {
