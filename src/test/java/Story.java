@@ -11,6 +11,8 @@ final class Story {
 
     private final LadderTown x;
     private final List<String> rows = new ArrayList<>();
+    // What is being told, ahead of each call, so that no two rows of a story have the same call.
+    private String part = "now";
 
     private Story(LadderTown x) {
         this.x = x;
@@ -29,7 +31,7 @@ final class Story {
     }
 
     private int row(String call, int answer) {
-        rows.add(call + " -> " + answer);
+        rows.add(part + ": " + call + " -> " + answer);
         return answer;
     }
 
@@ -77,6 +79,7 @@ final class Story {
 
     private void sheets() {
         for (int sheet = 0; sheet < 4; sheet++) {
+            part = "sheet " + sheet;
             for (int to = sheet; to < 4; to++) row("copy(" + sheet + " -> " + to + ")", x.copy(sheet, 0, to, 0, 0));
             if (row("lay(0, 2, " + sheet + ")", x.lay(0, 2, sheet)) == Due.NOTHING) continue;
             items(0);
@@ -86,13 +89,16 @@ final class Story {
 
     private void image() {
         int nights = Math.max(1, x.count(7) / 2);
+        part = "rows";
         row("check(" + nights + ")", x.check(nights));
+        part = "image";
         if (row("back()", x.back()) == Due.NO) return;
         counts();
         town();
     }
 
     private void tape() {
+        part = "tape";
         int text = row("text()", x.text());
         for (int what = 0; what < 2; what++) row("textTold(text, " + what + ")", x.textTold(text, what));
         row("ledge(0, 0)", x.ledge(0, 0));

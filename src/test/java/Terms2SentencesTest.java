@@ -70,6 +70,15 @@ public final class Terms2SentencesTest {
         Due.is("it was moved today", x.told(0, 7), 1);
         Due.is("its foot stays", x.told(0, 2), 0);
         Due.is("who moved it stays", x.personTold(0, 0), 0);
+        // Others on its foot, on its top or where it comes to do not hinder it, and stay.
+        for (int others = 0; others < 3; others++) {
+            LadderTown y = Due.town(0, 10, 20);
+            y.ladder(1, 20, 0, 1);
+            y.person(0, 0);
+            for (int i = 0; i < 5; i++) y.person(others, 0);
+            Due.is("with others on ledge " + others, y.move(0, 0, 2), 1);
+            Due.is("they stay", y.ledgeTold(others, 2), others == 0 ? 6 : 5);
+        }
     }
 
     private static void climbs() {
@@ -166,6 +175,11 @@ public final class Terms2SentencesTest {
         Due.is("no ways for all", x.meeting(), Due.NONE);
         for (int i = 0; i < 4; i++) x.set(i, 0, 4);
         Due.is("all are at one that has no ladders", x.meeting(), 4);
+        LadderTown star = Due.town(30, 10, 20, 0);
+        for (int i = 0; i < 3; i++) star.ladder(0, 30, 3, i);
+        for (int i = 0; i < 3; i++) star.person(i, 0);
+        // Minutes are 7, 3 and 5 to the middle: 22, 18, 20, 15 together.
+        Due.is("in the middle, where nobody is", star.meeting(), 3);
     }
 
     private static void meetingOfSeveralTheLeast() {
@@ -356,6 +370,9 @@ public final class Terms2SentencesTest {
         y.thieves(100);
         Due.is("from the last one round, past its foot", y.nights(1), 1);
         Due.is("its top", y.told(0, 3), 1);
+        for (int i = 0; i < 6; i++) y.person(i / 2, 99);
+        Due.is("people do not hinder it", y.nights(3), 3);
+        for (int i = 0; i < 3; i++) Due.is("they stay on ledge " + i, y.ledgeTold(i, 2), 2);
     }
 
     private static void noneItStays() {
@@ -388,6 +405,10 @@ public final class Terms2SentencesTest {
         Due.is("on day 3", y.may(0, 0), 1);
         y.nights(1);
         Due.is("on day 4", y.may(0, 0), 0);
+        Due.text(y, "move d=154");
+        for (int i = 0; i < 5; i++) y.nights(30);
+        Due.is("day 154", y.count(3), 154);
+        Due.is("on day 154", y.may(0, 0), 1);
     }
 
     private static void zAtFirst() {

@@ -46,6 +46,13 @@ public final class Terms3SentencesTest {
         y.nights(1);
         Due.is("thieves leant it back", y.told(0, 3), 1);
         help(y, 0, 2, 3);
+        y.set(0, 1, 0);
+        help(y, 0, 2, 3);
+        y.set(0, 1, 20);
+        y.nights(1);
+        Due.is("it is moved away from where it helps", y.move(0, 0, 1), 2);
+        Due.is("it was moved today", y.told(0, 7), 1);
+        help(y, 0, 2, 3);
     }
 
     private static void moreThanNow() {

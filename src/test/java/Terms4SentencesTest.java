@@ -188,6 +188,11 @@ public final class Terms4SentencesTest {
         }
         fault("toll (1<2+1=3)", 11);
         fault("toll 1<2&1<2<3", 12);
+        for (int open = 1; open <= 8; open++) {
+            gives("(".repeat(open) + "1<2" + ")<3".repeat(open), 1);
+            fault("toll " + "(".repeat(open) + "1<2<3", 8 + open);
+            fault("toll " + "(1<".repeat(open) + "2=3", 6 + 3 * open);
+        }
         fault("toll =1", 5);
         fault("toll 1>", 7);
     }
@@ -416,6 +421,10 @@ public final class Terms4SentencesTest {
         fault("lean !!!!!!!!(!h)", 14);
         good("lean !!!!!!!!(h)+!p", 2);
         good("lean (!!!!!!!!h+!!!!!!!!p)", 2);
+        // A bracket that is closed within others does not close the ! ahead of these.
+        fault("lean !!!!!!!!((((((((h)+!p", 24);
+        fault("lean !!!!!!!!((h)+!p)", 18);
+        good("lean !!!!!!!!(((h)))*((p+!h))", 3);
     }
 
     private static void bracketsAndNotsByThemselves() {
