@@ -13,7 +13,7 @@ import java.util.TreeSet;
 import java.util.regex.Matcher;
 import java.util.regex.Pattern;
 
-/** The document's face, and what of LANGUAGE.md can be seen without reading the program through. */
+/** The document's face, and what of LANGUAGE.md can be seen in the source's words and in the classes. */
 public final class LanguageTest {
     private static final String SOURCE = "src/main/java/LadderTown.java";
     private static final String FACE = "ledge2 ledgeTold2 change3 deal1 seed1 ladder4 told2 as2 turns2 cut2 needs2 person2 "
@@ -44,27 +44,17 @@ public final class LanguageTest {
             Matcher m = Pattern.compile(barred).matcher(code);
             while (m.find()) Due.is("\"" + m.group() + "\" is barred", 1, 0);
         }
-        int from = 0;
         String[] lines = source.split("\n");
-        for (int i = 0; i < lines.length; i++) {
-            if (lines[i].matches(" {4,8}\\S.*\\) \\{")) from = i;
-            if (lines[i].matches(" {4,8}\\}")) Due.is("11 lines to line " + (i + 1), i - from <= 60 ? 1 : 0, 1);
-            Due.is("line " + (i + 1) + " is long", lines[i].length() <= 125 ? 1 : 0, 1);
-        }
+        for (int i = 0; i < lines.length; i++) Due.is("line " + (i + 1) + " is long", lines[i].length() <= 125 ? 1 : 0, 1);
     }
 
     private static void members() {
         Class<?> face = LadderTown.class;
         Due.is("1 final", Modifier.isFinal(face.getModifiers()) ? 1 : 0, 1);
         Set<String> due = new TreeSet<>(List.of(FACE.split(" ")));
-        Set<String> names = new TreeSet<>();
-        for (String name : due) names.add(name.replaceAll("\\d", ""));
         Set<String> got = new TreeSet<>();
         for (Method m : face.getDeclaredMethods()) {
-            if (Modifier.isPrivate(m.getModifiers())) {
-                Due.is("1 private " + m.getName() + " bears a public one's name", names.contains(m.getName()) ? 1 : 0, 0);
-                continue;
-            }
+            if (Modifier.isPrivate(m.getModifiers())) continue;
             Due.is("1 public: " + m, Modifier.isPublic(m.getModifiers()) && m.getReturnType() == int.class ? 1 : 0, 1);
             got.add(m.getName() + m.getParameterCount());
         }
@@ -84,9 +74,6 @@ public final class LanguageTest {
 
     private static void inside(Class<?> inside) {
         Due.is("2 static: " + inside, Modifier.isStatic(inside.getModifiers()) ? 1 : 0, 1);
-        for (Method m : inside.getDeclaredMethods()) {
-            Due.is("11 parameters of " + m, m.getParameterCount() <= 7 ? 1 : 0, 1);
-        }
         fields(inside);
     }
 
