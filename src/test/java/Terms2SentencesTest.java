@@ -93,6 +93,11 @@ public final class Terms2SentencesTest {
             Due.is("below", x.personTold(0, 0), 0);
         }
         Due.is("climbing moves no ladder", x.count(5), 0);
+        x.thieves(0);
+        x.nights(30);
+        for (int kind = 0; kind < 6; kind++) {
+            Due.is("another day, kind " + kind, x.climb(0, kind) + x.climb(0, kind), 2 * minutes[kind]);
+        }
         x.cut(0, 23);
         Due.is("one that does not stand", x.climb(0, 0), Due.NO);
         Due.is("stays", x.personTold(0, 0), 0);
